@@ -24,7 +24,7 @@ public final class ListedTest {
         String of = " " + d + " " + n;
         DUE.is("14: count" + of, x.count(d, n), m.count(d, n));
         DUE.is("15: signed" + of, x.signed(d, n), m.signed(d, n));
-        DUE.is("17: listed" + of, x.listed(d, n), m.howManyListed(d, n));
+        DUE.is("17: listed" + of, x.listed(d, n), m.listed(d, n));
         long sum = 0;
         for (int k = -19; k <= 19; k++) {
             DUE.is("16: spreadAll" + of + " " + k, x.spreadAll(d, n, k), m.spreadAll(d, n, k));
@@ -37,7 +37,7 @@ public final class ListedTest {
 
     private static void pictures(int d, int n) {
         FloorCurves x = new FloorCurves();
-        List<Model.Pic> all = Model.listed(d, n);
+        List<Model.Pic> all = Model.listOf(d, n);
         for (int i = 0; i < all.size(); i++) {
             String of = " " + d + " " + n + " " + i;
             DUE.is("18: take" + of, x.take(d, n, i), 0);

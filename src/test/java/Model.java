@@ -163,7 +163,7 @@ final class Model {
 
     // ---- all of a degree
 
-    static List<Pic> listed(int d, int n) {
+    static List<Pic> listOf(int d, int n) {
         return LISTED.computeIfAbsent(d * 10 + n, key -> search(d, d * (d - 1) / 2 - n));
     }
 
@@ -258,14 +258,14 @@ final class Model {
         return sum != d - 1 ? 0 : times * tangent(d - 1, n - (d - 1) + m, a2, b2);
     }
 
-    static long rational(int d) {
+    static long splitCount(int d) {
         if (d == 1) {
             return 1;
         }
         long sum = 0;
         for (int a = 1; a < d; a++) {
             int b = d - a;
-            sum += rational(a) * rational(b) * a * a * b
+            sum += splitCount(a) * splitCount(b) * a * a * b
                 * (b * choose(3 * d - 4, 3 * a - 2) - a * choose(3 * d - 4, 3 * a - 1));
         }
         return sum;
@@ -404,30 +404,30 @@ final class Model {
     }
 
     long count(int d, int n) {
-        return isBad(d, n) ? BAD : listed(d, n).stream().mapToLong(pic -> pic.mult() * pic.markings(-1, 0)).sum();
+        return isBad(d, n) ? BAD : listOf(d, n).stream().mapToLong(pic -> pic.mult() * pic.markings(-1, 0)).sum();
     }
 
     long signed(int d, int n) {
-        return isBad(d, n) ? BAD : listed(d, n).stream().mapToLong(pic -> pic.sign() * pic.markings(-1, 0)).sum();
+        return isBad(d, n) ? BAD : listOf(d, n).stream().mapToLong(pic -> pic.sign() * pic.markings(-1, 0)).sum();
     }
 
     long spreadAll(int d, int n, int k) {
-        return isBad(d, n) ? BAD : listed(d, n).stream().mapToLong(pic -> pic.spread(k) * pic.markings(-1, 0)).sum();
+        return isBad(d, n) ? BAD : listOf(d, n).stream().mapToLong(pic -> pic.spread(k) * pic.markings(-1, 0)).sum();
     }
 
-    int howManyListed(int d, int n) {
-        return isBad(d, n) ? BAD : listed(d, n).size();
+    int listed(int d, int n) {
+        return isBad(d, n) ? BAD : listOf(d, n).size();
     }
 
     int take(int d, int n, int i) {
         if (isBad(d, n) || i < 0) {
             return BAD;
         }
-        if (i >= listed(d, n).size()) {
+        if (i >= listOf(d, n).size()) {
             return NONE;
         }
         Pic copy = new Pic(d);
-        for (int[] s : listed(d, n).get(i).stairs) {
+        for (int[] s : listOf(d, n).get(i).stairs) {
             copy.add(s[0], s[1], s[2]);
         }
         return come(copy);
@@ -441,7 +441,7 @@ final class Model {
         if (!pic.right()) {
             return STATE;
         }
-        List<Pic> all = listed(pic.d, pic.knots());
+        List<Pic> all = listOf(pic.d, pic.knots());
         for (int i = 0; i < all.size(); i++) {
             if (Arrays.equals(all.get(i).amounts(), pic.amounts())) {
                 return i;
@@ -546,8 +546,8 @@ final class Model {
         return a == null ? STATE : letter == 0 ? a[k] : b[k];
     }
 
-    long rationalOf(int d) {
-        return d < 1 || d > 7 ? BAD : rational(d);
+    long rational(int d) {
+        return d < 1 || d > 7 ? BAD : splitCount(d);
     }
 
     int sheet(int k, int lane, int n) {
