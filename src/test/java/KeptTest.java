@@ -20,6 +20,8 @@ public final class KeptTest {
         from(Made.full());
         refusedInAnyState(8);
         refusedWhereAllIsFull();
+        refusedWherePicturesAloneAreNone();
+        refusedWhereNothingWasTold();
         textsWithFaults();
         DUE.close();
     }
@@ -161,7 +163,10 @@ public final class KeptTest {
     private static void refusedWhereAllIsFull() {
         refused(FULL, "picture", 1);
         refused(FULL, "stair", 0, 0, 1, 1);
+        refused(FULL, "stair", 0, 0, 3, 4);
         refused(FULL, "stair", 1, 0, 1, 4);
+        refused(FULL, "stair", 1, 0, 1, 1);
+        refused(BAD, "stair", 1, 0, 2, 1);
         refused(STATE, "cut", 0, 0, 3, 1);
         refused(STATE, "cut", 1, 0, 1, 3);
         refused(STATE, "markings", 1);
@@ -176,6 +181,39 @@ public final class KeptTest {
         refused(-12, "draw", 0, 2, 58, 4, 1);
         refused(-13, "draw", 0, 0, 0, 4, 0);
         refused(-20, "draw", 1, 0, 0, 4, 1);
+    }
+
+    private static void refusedWherePicturesAloneAreNone() {
+        List<Call> run = Made.some();
+        for (int p = 0; p < 3; p++) {
+            run.add(Call.of("drop"));
+        }
+        from(run);
+        refused(NONE, "drop");
+        refused(BAD, "about", 0, 0);
+        refused(BAD, "stair", 0, 0, 1, 1);
+        refused(BAD, "place", 0);
+        refused(-20, "draw", 0, 0, 0, 1, 1);
+    }
+
+    private static void refusedWhereNothingWasTold() {
+        List<Call> run = new ArrayList<>();
+        run.add(Call.of("take", 4, 3, 7));
+        run.add(Call.of("feed", Made.eightBytes("a6", 0)));
+        run.add(Call.of("text"));
+        run.add(Call.of("feed", Made.eightBytes("b1 b2", 0)));
+        run.add(Call.of("sheet", 0, 1, 4));
+        from(run);
+        for (int n : new int[] {0, 10}) {
+            refused(STATE, "tangent", n);
+        }
+        for (int k : new int[] {1, 5}) {
+            refused(STATE, "has", 0, k);
+            refused(STATE, "has", 1, k);
+        }
+        refused(BAD, "tangent", 11);
+        refused(BAD, "has", 2, 1);
+        refused(BAD, "end", 9);
     }
 
     /** A text with a FAULT empties THE TAPE and tells the FAULT; all else is kept, what was told too. */

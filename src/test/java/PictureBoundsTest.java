@@ -283,6 +283,11 @@ public final class PictureBoundsTest {
     private static void partsOneToDegree() {
         for (int d = 1; d <= 4; d++) {
             DUE.is("6: PARTS without STAIRS", Made.with(d).about(0, 4), d);
+            for (int i = 0; i < d; i++) {
+                for (int j = i + 1; j < d; j++) {
+                    DUE.is("6: one STAIR joins two", Made.with(d, i, j, 1).about(0, 4), d - 1);
+                }
+            }
         }
         DUE.is("6: like STAIRS hang together once", Made.with(4, Made.like(6, 1, 2, 1)).about(0, 4), 3);
         DUE.is("6: two and two", Made.with(4, 0, 3, 1, 1, 2, 1).about(0, 4), 2);
